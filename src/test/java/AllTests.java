@@ -1,0 +1,20 @@
+/** Runs the tests that are named, or all of them. */
+final class AllTests {
+    private static final String[] NAMES = {"ModelTest"};
+
+    private AllTests() {
+    }
+
+    public static void main(String[] names) {
+        for (String name : names.length == 0 ? NAMES : names) runTest(name);
+        System.out.println(Check.passed + " checks passed, " + Check.failed + " failed");
+        if (Check.failed > 0 || Check.passed == 0) System.exit(1);
+    }
+
+    private static void runTest(String name) {
+        switch (name) {
+            case "ModelTest": ModelTest.run(); break;
+            default: Check.due("the test " + name + " that AllTests runs", 0, 1);
+        }
+    }
+}
