@@ -1,6 +1,9 @@
 /** Runs the tests that are named, or all of them. */
 final class AllTests {
-    private static final String[] NAMES = {"ModelTest"};
+    private static final String[] NAMES = {
+        "GameTest", "HopTest", "LookTest", "AheadTest", "TextTest", "BackTest", "RulesTest", "RobustTest", "ModelTest",
+        "SourceTest",
+    };
 
     private AllTests() {
     }
@@ -13,7 +16,16 @@ final class AllTests {
 
     private static void runTest(String name) {
         switch (name) {
+            case "GameTest": GameTest.run(); break;
+            case "HopTest": HopTest.run(); break;
+            case "LookTest": LookTest.run(); break;
+            case "AheadTest": AheadTest.run(); break;
+            case "TextTest": TextTest.run(); break;
+            case "BackTest": BackTest.run(); break;
+            case "RulesTest": RulesTest.run(); break;
+            case "RobustTest": RobustTest.run(); break;
             case "ModelTest": ModelTest.run(); break;
+            case "SourceTest": SourceTest.run(); break;
             default: Check.due("the test " + name + " that AllTests runs", 0, 1);
         }
     }
