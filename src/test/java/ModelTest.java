@@ -2,12 +2,14 @@ import java.util.Random;
 
 /** Compares the class with the model over many games that are played at random, the same ones each time. */
 final class ModelTest {
-    private static final int GAMES = 400, CALLS = 150;
+    private static final int GAMES = 250, CALLS = 150, LONG_GAMES = 40, LONG_CALLS = 500;
 
     private final Random random;
     private final RingDraughts x = new RingDraughts();
     private final Model model = new Model();
     private final String name;
+
+    private int lateRepetitions = 0;
 
     private ModelTest(int game) {
         random = new Random(game);
@@ -24,6 +26,38 @@ final class ModelTest {
                 test.compareAll();
             }
         }
+        int lateRepetitions = 0;
+        for (int game = 0; game < LONG_GAMES; game++) {
+            ModelTest test = new ModelTest(1000 + game);
+            test.playLong();
+            lateRepetitions += test.lateRepetitions;
+        }
+        Check.due("positions come again late in games, too", Check.oneIf(lateRepetitions > 20), 1);
+    }
+
+    /** A game of hops alone, with few jumps; late in it kings go back to where they have been. */
+    private void playLong() {
+        for (int i = 0; i < LONG_CALLS && model.count(0) == 0; i++) {
+            int hop = chooseLongHop();
+            due("long hop " + hop, x.hop(hop, 1), model.hop(hop, 1));
+            for (int what = 0; what < 10; what++) due("long count " + what, x.count(what), model.count(what));
+            if (model.count(5) > 1 && model.count(3) > 70) lateRepetitions++;
+        }
+    }
+
+    private int chooseLongHop() {
+        int number = model.count(2);
+        int first = random.nextInt(number);
+        int safe = first;
+        for (int i = 0; i < number; i++) {
+            int hop = (first + i) % number;
+            Model twin = model.twin();
+            twin.hop(hop, 0);
+            boolean isSafe = twin.count(0) == 0 && twin.ofHop(0, 4) == RingDraughts.NONE;
+            if (isSafe && safe == first) safe = hop;
+            if (isSafe && twin.count(3) > 70 && twin.count(5) > 1) return hop;
+        }
+        return safe;
     }
 
     private void due(String call, long got, long want) {
