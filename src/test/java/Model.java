@@ -370,13 +370,17 @@ final class Model {
     private static final Pattern TEXT = Pattern.compile(HOP + "(?:," + HOP + ")*");
 
     /** The first character behind which no text can go on to be a whole one. */
-    int fault() {
-        if (TEXT.matcher(pad).matches()) return NONE;
-        for (int i = 1; i <= pad.length(); i++) {
-            Matcher matcher = TEXT.matcher(pad.substring(0, i));
+    static int faultOf(String text) {
+        if (TEXT.matcher(text).matches()) return NONE;
+        for (int i = 1; i <= text.length(); i++) {
+            Matcher matcher = TEXT.matcher(text.substring(0, i));
             if (!matcher.matches() && !matcher.hitEnd()) return i - 1;
         }
-        return pad.length();
+        return text.length();
+    }
+
+    int fault() {
+        return faultOf(pad);
     }
 
     int undo() {

@@ -2,13 +2,16 @@ import java.util.Random;
 
 /** Compares the class with the model over many games that are played at random, the same ones each time. */
 final class ModelTest {
-    private static final int GAMES = 250, CALLS = 150, LONG_GAMES = 40, LONG_CALLS = 500;
+    private static final int GAMES = 2500, LONG_GAMES = 60;
+    /** What an object answers behind so many calls is free; so many at most are made before the next look at that. */
+    private static final int CALLS = 512, CALLS_OF_A_STEP = 40, QUESTIONS = 12;
 
     private final Random random;
     private final RingDraughts x = new RingDraughts();
     private final Model model = new Model();
     private final String name;
 
+    private int calls = 0;
     private int lateRepetitions = 0;
 
     private ModelTest(int game) {
@@ -21,10 +24,11 @@ final class ModelTest {
             ModelTest test = new ModelTest(game);
             int before = Check.failed;
             test.setUp(game % 5);
-            for (int i = 0; i < CALLS && Check.failed == before; i++) {
+            while (test.calls + CALLS_OF_A_STEP <= CALLS && Check.failed == before) {
                 test.call();
-                test.compareAll();
+                for (int i = 0; i < QUESTIONS; i++) test.ask();
             }
+            Check.due("calls of the game " + game + " within what is promised", Check.oneIf(test.calls <= CALLS), 1);
         }
         int lateRepetitions = 0;
         for (int game = 0; game < LONG_GAMES; game++) {
@@ -37,11 +41,14 @@ final class ModelTest {
 
     /** A game of hops alone, with few jumps; late in it kings go back to where they have been. */
     private void playLong() {
-        for (int i = 0; i < LONG_CALLS && model.count(0) == 0; i++) {
+        while (calls + 3 <= CALLS && model.count(0) == 0) {
             int hop = chooseLongHop();
             due("long hop " + hop, x.hop(hop, 1), model.hop(hop, 1));
-            for (int what = 0; what < 10; what++) due("long count " + what, x.count(what), model.count(what));
-            if (model.count(5) > 1 && model.count(3) > 70) lateRepetitions++;
+            int what = oneIn(8) ? random.nextInt(10) : 6;
+            if (oneIn(4)) due("long count " + what, x.count(what), model.count(what));
+            if (model.count(5) == 1 || model.count(3) <= 70) continue;
+            due("long count 5", x.count(5), model.count(5));
+            lateRepetitions++;
         }
     }
 
@@ -61,6 +68,7 @@ final class ModelTest {
     }
 
     private void due(String call, long got, long want) {
+        calls++;
         Check.due(name + ": " + call, got, want);
     }
 
@@ -77,8 +85,7 @@ final class ModelTest {
 
     private void setUp(int kind) {
         if (kind == 0) return;
-        x.begin(true);
-        model.begin(true);
+        due("begin true", x.begin(true), model.begin(true));
         int number = kind == 1 ? 3 + random.nextInt(3) : kind == 2 ? 8 + random.nextInt(8) : 20 + random.nextInt(20);
         for (int i = 0; i < number; i++) {
             int piece = kind == 1 || kind == 3 ? 1 + 2 * random.nextInt(2) : random.nextInt(4);
@@ -177,15 +184,18 @@ final class ModelTest {
         else due("begin " + isEmpty, x.begin(isEmpty), model.begin(isEmpty));
     }
 
-    private void compareAll() {
-        for (int what = 0; what < 10; what++) due("count " + what, x.count(what), model.count(what));
-        for (int i = 0; i < 10; i++) due("side " + i, x.side(i / 5, i % 5), model.side(i / 5, i % 5));
-        for (int i = 0; i < 48 * 5; i++) due("square " + i / 5 + " " + i % 5, x.square(i / 5, i % 5), model.square(i / 5, i % 5));
-        int hops = model.count(2);
-        int first = hops > 12 ? random.nextInt(hops - 12) : 0;
-        for (int hop = first; hop <= hops && hop <= first + 12; hop++) {
-            for (int what = 0; what < 7; what++) due("ofHop " + hop + " " + what, x.ofHop(hop, what), model.ofHop(hop, what));
-        }
-        due("worth 0", x.worth(0), model.worth(0));
+    private void ask() {
+        int number = random.nextInt(10);
+        int square = random.nextInt(48);
+        int kind = random.nextInt(10);
+        if (kind < 3) due("count " + number, x.count(number), model.count(number));
+        else if (kind < 5) due("side " + number, x.side(number / 5, number % 5), model.side(number / 5, number % 5));
+        else if (kind < 7) due("square " + square + " " + number / 2, x.square(square, number / 2), model.square(square, number / 2));
+        else if (kind < 9) askOfHop(random.nextInt(model.count(2) + 1), random.nextInt(7));
+        else due("worth 0", x.worth(0), model.worth(0));
+    }
+
+    private void askOfHop(int hop, int what) {
+        due("ofHop " + hop + " " + what, x.ofHop(hop, what), model.ofHop(hop, what));
     }
 }

@@ -2,7 +2,7 @@ import java.util.Random;
 
 /** Any arguments in any state: no call throws, and what answers an error changes nothing. */
 final class RobustTest {
-    private static final int OBJECTS = 60, CALLS = 512;
+    private static final int OBJECTS = 400, CALLS = 400, ENDLESS_CALLS = 20000;
     private static final int[] EDGES = {
         Integer.MIN_VALUE, Integer.MIN_VALUE + 1, -100, -7, -6, -5, -2, -1, 0, 1, 2, 3, 4, 5, 6, 7, 9, 10, 11, 12, 16,
         23, 24, 47, 48, 60, 99, 1000, 9999, 10000, 1 << 16, Integer.MAX_VALUE - 1, Integer.MAX_VALUE,
@@ -13,6 +13,7 @@ final class RobustTest {
 
     static void run() {
         for (int seed = 0; seed < OBJECTS; seed++) drive(new Random(seed), seed);
+        driveOn(new Random(OBJECTS));
         crowd();
     }
 
@@ -32,17 +33,29 @@ final class RobustTest {
         return Check.characters(text.toString());
     }
 
+    /** The same calls to two objects, but that one gets no calls that the other one has answered by an error. */
     private static void drive(Random random, int seed) {
         RingDraughts x = new RingDraughts();
-        if (seed % 2 == 0) x.begin(true);
-        for (int i = 0; i < CALLS; i++) {
-            String before = i % 8 == 0 ? all(x) : null;
-            int answer = call(x, random);
-            if (before != null && answer < 0 && answer != RingDraughts.NONE) {
-                Check.due("an error changes nothing", Check.oneIf(before.equals(all(x))), 1);
-            }
-            Check.due("an answer is no unknown code", Check.oneIf(answer >= -6 && answer <= 20000), 1);
+        RingDraughts withoutErrors = new RingDraughts();
+        if (seed % 2 == 0) {
+            x.begin(true);
+            withoutErrors.begin(true);
         }
+        for (int i = 0; i < CALLS; i++) {
+            long sameSeed = random.nextLong();
+            int answer = call(x, new Random(sameSeed));
+            Check.due("an answer is no unknown code", Check.oneIf(answer >= -6 && answer <= 20000), 1);
+            if (answer < 0 && answer != RingDraughts.NONE) continue;
+            Check.due("the answer without errors ahead of it", call(withoutErrors, new Random(sameSeed)), answer);
+        }
+        Check.same("the state without errors", all(withoutErrors), all(x));
+    }
+
+    /** Behind the calls that are promised, answers are free, but no call may throw. */
+    private static void driveOn(Random random) {
+        RingDraughts x = new RingDraughts();
+        for (int i = 0; i < ENDLESS_CALLS; i++) call(x, random);
+        Check.due("calls without an end", 1, 1);
     }
 
     private static int call(RingDraughts x, Random random) {

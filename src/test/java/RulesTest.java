@@ -21,7 +21,6 @@ final class RulesTest {
         whatMakesAPosition();
         sixtyQuietHopsDraw();
         quietHopsAreKingsAndTakeNothing();
-        winningGoesAheadOfDrawing();
     }
 
     private static void menGoAhead() {
@@ -250,23 +249,5 @@ final class RulesTest {
         Check.due("quiet: one", taking.count(6), 1);
         taking.play(0, 26);
         Check.due("quiet: a king that takes", taking.count(6), 0);
-    }
-
-    /** Found by a search backwards: the sixtieth quiet hop shuts the last king of the side 1 in. */
-    private static void winningGoesAheadOfDrawing() {
-        RingDraughts x = Check.board(1, 1, 1, 8, 0, 11, 1, 12, 0, 13, 3, 15, 0, 24, 0, 25, 1, 30, 0, 31, 0, 33, 1,
-            35, 0, 36, 0, 38, 0, 39, 0, 45, 0);
-        int[] hops = {
-            13, 2, 11, 22, 2, 13, 1, 14, 13, 19, 33, 46, 19, 41, 46, 20, 41, 19, 22, 11, 19, 13, 20, 33, 13, 19,
-            33, 46, 19, 13, 11, 33, 13, 19, 33, 27, 19, 41, 46, 9, 41, 13, 27, 33, 13, 19, 33, 46, 19, 41, 46, 40,
-            41, 19, 9, 29, 19, 34, 29, 23, 34, 19, 40, 46, 19, 41, 23, 4, 41, 19, 4, 17, 19, 41, 46, 20, 41, 19,
-            20, 46, 19, 41, 46, 9, 41, 26, 17, 37, 26, 19, 9, 29, 19, 13, 37, 33, 13, 19, 33, 11, 19, 13, 11, 33,
-            13, 19, 33, 11, 19, 13, 29, 44, 13, 18, 25, 19, 18, 25, 44, 18,
-        };
-        for (int i = 0; i < 60; i++) {
-            Check.due("ahead: hop " + i, x.play(hops[2 * i], hops[2 * i + 1]), i == 59 ? 1 : 0);
-            Check.due("ahead: quiet hops", x.count(6), i + 1);
-        }
-        Check.due("ahead: won", x.count(0), 1);
     }
 }
