@@ -181,6 +181,10 @@ final class Promise1To5Test {
         Check.counts("before", x, 0, 0, 92, 26, NONE, 1, 26);
         x.set(47, NONE);
         Check.counts("a new game, though nothing is different", x, 0, 0, 92, 0, NONE, 1, 0);
+        RingDraughts step = new RingDraughts();
+        step.hop(0, 0);
+        step.set(47, NONE);
+        Check.due("the position of now comes for the first time in the new game", step.count(5), 1);
         RingDraughts lost = Check.board(0, 0, 0, 6, 2, 44, 2);
         lost.play(0, 13);
         Check.due("lost before", lost.side(1, 3), 1);

@@ -17,6 +17,7 @@ final class Promise21To23Test {
         promise21None();
         promise21PositionsAreUndoneToo();
         promise22SavesEverything();
+        promise22SavesEveryPosition();
         promise22NotThePadAndTheHistory();
         promise22Overwrites();
         promise22HowManyHops();
@@ -275,6 +276,36 @@ final class Promise21To23Test {
             x.restore(0);
             Check.same("restored, " + Ended.name(kind), State.ofGame(x), saved);
         }
+    }
+
+    private static void promise22SavesEveryPosition() {
+        Check.sentence(22, "Saves everything");
+        int[] saved = {20, 33, 46, 59, 60};
+        for (int hops : saved) {
+            RingDraughts same = Quiet.board();
+            Quiet.hops(same, 0, hops);
+            RingDraughts x = Quiet.board();
+            Quiet.hops(x, 0, hops);
+            x.save(1);
+            Quiet.elsewhere(x, 1 + hops % 5);
+            x.restore(1);
+            for (int hop = hops; hop < 60; hop++) {
+                Check.due("come, saved behind " + hops + ", ahead of " + hop, x.count(5), same.count(5));
+                Quiet.hops(same, hop, hop + 1);
+                Quiet.hops(x, hop, hop + 1);
+            }
+            Check.due("come, saved behind " + hops, x.count(5), 2);
+        }
+        RingDraughts back = Quiet.board();
+        Quiet.hops(back, 0, 41);
+        back.save(0);
+        Quiet.elsewhere(back, 1);
+        back.restore(0);
+        back.play(Quiet.kingOf1(20), Quiet.kingOf1(21));
+        back.play(Quiet.kingOf0(21), Quiet.kingOf0(20));
+        Check.due("come, by a new way", back.count(5), 1);
+        back.play(Quiet.kingOf1(21), Quiet.kingOf1(20));
+        Check.due("come, as behind 40", back.count(5), 2);
     }
 
     private static void promise22NotThePadAndTheHistory() {

@@ -23,6 +23,25 @@ final class Quiet {
         return LAP[(round + round / LAP.length) % LAP.length];
     }
 
+    /** The square some steps right and up. */
+    private static int up(int square, int steps) {
+        int row = square / 6 + steps;
+        int column = square % 6 * 2 + square / 6 % 2 + steps;
+        return row % 8 * 6 + column % 12 / 2;
+    }
+
+    /** The whole game, but that both kings stand some steps farther right and up; 60 hops. */
+    static void elsewhere(RingDraughts x, int steps) {
+        x.begin(true);
+        x.set(up(KING_0, steps), 1);
+        x.set(up(KING_1, steps), 3);
+        for (int round = 0; round < 30; round++) {
+            x.play(up(kingOf0(round), steps), up(kingOf0(round + 1), steps));
+            x.play(up(kingOf1(round), steps), up(kingOf1(round + 1), steps));
+        }
+        Check.due("60 quiet hops elsewhere", x.count(6), 60);
+    }
+
     /** Makes the hops with these numbers, up to the last one alone; the hop 0 is the first one of the side 0. */
     static int hops(RingDraughts x, int first, int behindLast) {
         int state = 0;

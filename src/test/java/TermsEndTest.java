@@ -12,7 +12,10 @@ final class TermsEndTest {
         termsThirdPosition();
         termsPositionsOfTheGameAlone();
         termsSideIsPartOfThePosition();
+        termsEverySquareIsPartOfThePosition();
+        termsPositionsThatComeLate();
         termsSixtyQuietHops();
+        termsSixtyBehindAMansHop();
         termsQuietHopsAreKings();
         termsQuietHopsTakeNothing();
         termsWinningGoesAheadOfDrawing();
@@ -120,6 +123,44 @@ final class TermsEndTest {
         Check.due("behind a jump, with one to come", jump.count(5), 1);
     }
 
+    /** Three squares of a row that a king can go round, and two that the other king goes to and fro between. */
+    private static void termsEverySquareIsPartOfThePosition() {
+        Check.sentence(0, "a position (pieces, side to move, and the piece that has to jump on, if there is one)");
+        int[] first = {0, 6, 13, 19, 24, 30, 37, 43};
+        for (int row = 0; row < 8; row++) {
+            RingDraughts x = new RingDraughts();
+            int here = x.step(x.step(first[row], 0), 2);
+            int there = x.step(x.step(here, 2), 2);
+            x.begin(true);
+            x.set(first[row], 1);
+            x.set(here, 3);
+            for (int hop = 0; hop < 12; hop++) {
+                int from = first[row] + 2 * (hop % 3);
+                int to = first[row] + 2 * ((hop + 1) % 3);
+                Check.due("row " + row + ": hop " + hop + " of 0", x.play(from, to), 0);
+                boolean isHere = hop % 2 == 0;
+                Check.due("row " + row + ": hop " + hop + " of 1", x.play(isHere ? here : there, isHere ? there : here), hop == 11 ? 3 : 0);
+                Check.due("row " + row + ": come " + hop, x.count(5), hop == 11 ? 3 : hop >= 5 ? 2 : 1);
+            }
+        }
+    }
+
+    /** The king of the side 1 takes the man behind 58 quiet hops, and both kings go to and fro then. */
+    private static void termsPositionsThatComeLate() {
+        Check.sentence(0, "has come for the third time since the game began");
+        RingDraughts x = Quiet.board(2, 0);
+        Quiet.hops(x, 0, 58);
+        x.play(2, 8);
+        Check.due("it is taken", x.hop(0, 0), 0);
+        Check.due("by a king that comes to 14", x.square(14, 0), 3);
+        int[] squares = {13, 0, 14, 1, 0, 13, 1, 14};
+        for (int hop = 0; hop < 8; hop++) {
+            Check.due("come " + hop, x.count(5), hop / 4 + 1);
+            Check.due("hop " + hop, x.play(squares[hop % 4 * 2], squares[hop % 4 * 2 + 1]), hop == 7 ? 3 : 0);
+        }
+        Check.counts("the third time", x, 3, 0, 0, 68, NONE, 3, 8);
+    }
+
     private static void termsSixtyQuietHops() {
         Check.sentence(0, "or when 60 hops in a row were made by kings, without taking");
         RingDraughts x = Quiet.board();
@@ -134,6 +175,20 @@ final class TermsEndTest {
         x.undo();
         x.set(47, NONE);
         Check.due("a new game: none", x.count(6), 0);
+    }
+
+    private static void termsSixtyBehindAMansHop() {
+        Check.sentence(0, "or when 60 hops in a row were made by kings, without taking");
+        RingDraughts x = Check.board(0, Quiet.BEHIND, 1, Quiet.KING_1, 3, 8, 0);
+        Check.due("a man's hop", x.play(8, 15), 0);
+        for (int hop = 0; hop < 60; hop++) {
+            Check.due("ahead of " + hop, x.count(6), hop);
+            int round = hop / 2;
+            int state = hop % 2 == 0 ? x.play(Quiet.kingOf1(round), Quiet.kingOf1(round + 1))
+                : x.play(Quiet.kingOf0(round + 1), Quiet.kingOf0(round));
+            Check.due("the quiet hop " + hop, state, hop == 59 ? 3 : 0);
+        }
+        Check.counts("drawn by them, and not by a position", x, 3, 1, 0, 61, NONE, 2, 60);
     }
 
     private static void termsQuietHopsAreKings() {

@@ -97,6 +97,11 @@ final class TermsHopsTest {
             Check.due("alone: ways of " + hop, x.ofHop(hop, 2), hop / 23);
             Check.due("alone: not onto its own square by " + hop, Check.oneIf(x.ofHop(hop, 1) == 0), 0);
         }
+        RingDraughts two = Check.board(0, 0, 1, 1, 1);
+        Check.due("two of one side: the most hops that there can be", two.count(2), 2 * 4 * 23);
+        Check.ofHop("two of one side: the last one", two, 183, 1, 7, 3, 23, NONE, 0, 0);
+        Check.due("two of one side: it can be made", two.hop(183, 0), 1);
+        Check.due("two of one side: it is made", two.square(7, 0), 1);
         RingDraughts last = Check.board(0, 0, 1, 47, 0, 1, 3);
         hops("a piece at the end of a lap", last, 0, 22 + 23 + 23);
         Check.ofHop("a piece at the end of a lap: up to it", last, 21, 0, 41, 0, 22, NONE);
@@ -257,6 +262,10 @@ final class TermsHopsTest {
         RingDraughts king = Check.board(0, 42, 0, 13, 2, 44, 2);
         king.play(42, 0);
         Check.due("a step by which a man becomes a king: side", king.count(1), 1);
+        RingDraughts far = Check.board(0, 0, 0, 6, 2, 26, 2, 24, 2);
+        far.play(0, 13);
+        Check.due("a man does not jump on over pieces two steps away: side", far.count(1), 1);
+        Check.due("a man does not jump on over pieces two steps away: nobody has to", far.count(4), NONE);
         RingDraughts back = Check.board(0, 0, 0, 6, 2, 7, 2, 44, 2);
         back.play(0, 13);
         Check.due("a man does not jump on backwards", back.count(1), 1);
