@@ -4,7 +4,7 @@ final class AllTests {
         "TermsConventionsTest", "TermsBoardTest", "TermsHopsTest", "TermsEndTest", "Promise1To5Test", "Promise6To9Test",
         "Promise10To14Test", "Promise15To17Test", "Promise18To20Test", "Promise21To23Test", "SentencesTest",
         "GameTest", "HopTest", "LookTest", "AheadTest", "TextTest", "BackTest", "RulesTest", "RobustTest", "ModelTest",
-        "SourceTest",
+        "SourceTest", "FaceTest", "RoomTest", "ReadmeTest",
     };
 
     private AllTests() {
@@ -42,6 +42,9 @@ final class AllTests {
             case "RobustTest": RobustTest.run(); break;
             case "ModelTest": ModelTest.run(); break;
             case "SourceTest": SourceTest.run(); break;
+            case "FaceTest": FaceTest.run(); break;
+            case "RoomTest": RoomTest.run(); break;
+            case "ReadmeTest": ReadmeTest.run(); break;
             default: Check.due("the test " + name + " that AllTests runs", 0, 1);
         }
     }

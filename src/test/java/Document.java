@@ -37,6 +37,13 @@ final class Document {
         return section;
     }
 
+    /** The lines of the public face that are Java. */
+    static List<String> face() {
+        List<String> face = new ArrayList<>();
+        for (String line : allLines()) if (line.startsWith("    public ")) face.add(line.trim());
+        return face;
+    }
+
     /** What has to be tested by itself: sentences, and of those that tell answers each of their parts. */
     static List<String> sentences(int promise) {
         List<String> sentences = new ArrayList<>();

@@ -4,7 +4,7 @@ import java.nio.file.Path;
 import java.util.regex.Matcher;
 import java.util.regex.Pattern;
 
-/** The words of LANGUAGE.md that the class must not use, the length of its methods, and its face. */
+/** The words of LANGUAGE.md that the class must not use, and the length of its methods. */
 final class SourceTest {
     private static final String[] FORBIDDEN = {
         "\\b(throw|throws|try|catch|finally|synchronized|assert|volatile|transient|native|package)\\b",
@@ -32,7 +32,6 @@ final class SourceTest {
         }
         Check.due("characters above 126", source.chars().filter(c -> c > 126).count(), 0);
         methodsAreShort(source);
-        faceIsWhole();
     }
 
     private static void methodsAreShort(String source) {
@@ -46,21 +45,5 @@ final class SourceTest {
                 start = -1;
             }
         }
-    }
-
-    private static void faceIsWhole() {
-        long methods = java.util.Arrays.stream(RingDraughts.class.getDeclaredMethods())
-            .filter(m -> java.lang.reflect.Modifier.isPublic(m.getModifiers())).count();
-        long others = java.util.Arrays.stream(RingDraughts.class.getDeclaredMethods())
-            .filter(m -> !java.lang.reflect.Modifier.isPublic(m.getModifiers()))
-            .filter(m -> !java.lang.reflect.Modifier.isPrivate(m.getModifiers())).count();
-        Check.due("public methods", methods, 22);
-        Check.due("methods that are neither public nor private", others, 0);
-        Check.due("public fields", RingDraughts.class.getFields().length, 6);
-        Check.due("public constructors", RingDraughts.class.getConstructors().length, 1);
-        Check.due("final", Check.oneIf(java.lang.reflect.Modifier.isFinal(RingDraughts.class.getModifiers())), 1);
-        int[] codes = {RingDraughts.NO_SUCH, RingDraughts.BAD_VALUE, RingDraughts.BAD_TEXT, RingDraughts.TOO_MANY,
-            RingDraughts.NOT_POSSIBLE, RingDraughts.NONE};
-        for (int i = 0; i < codes.length; i++) Check.due("error code " + i, codes[i], -1 - i);
     }
 }
